@@ -369,6 +369,10 @@ public final class CasesTest {
         Due.answer("21 none open", PromiseClocks.NONE, () -> x.mostUrgent());
         x.openAnew(0);
         Due.answer("21 opened anew", 0, () -> x.mostUrgent());
+        PromiseClocks full = new PromiseClocks();
+        fullDesk(full);
+        full.setGravity(39, 1);
+        Due.answer("21 the last of 40", 39, () -> full.mostUrgent());
     }
 
     private static void noSuchCase() {

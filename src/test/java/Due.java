@@ -41,6 +41,10 @@ final class Due {
         try {
             return call.answer();
         } catch (RuntimeException e) {
+            if (e.getClass() != NO_SUCH && e.getClass() != ARGUMENT && e.getClass() != STATE) {
+                wrong++;
+                System.out.println("no call may throw " + e);
+            }
             return "throws." + e.getClass().getSimpleName();
         }
     }

@@ -29,7 +29,7 @@ public final class ManyRunsTest {
         // some runs call what is called at a few cases, some fill the desk
         int width = run % 3 == 0 ? 3 : run % 3 == 1 ? 8 : 41;
         for (int i = 0; i < CALLS; i++) {
-            String name = CALLED[below(CALLED.length)];
+            String name = width == 41 && i < 40 ? "open" : CALLED[below(CALLED.length)];
             int[] v = arguments(name, width, run % 2 == 0 ? 30 : 1000);
             Object due = Due.outcome(() -> model.call(name, v[0], v[1], v[2], v[3]));
             String what = "run " + run + ", call " + i + ": " + name + "(" + v[0] + ", " + v[1] + ", " + v[2] + ", "

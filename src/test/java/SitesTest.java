@@ -163,7 +163,8 @@ public final class SitesTest {
             for (int day = 0; day < 10; day++) {
                 int of = kind;
                 int on = day;
-                Due.answer("5 kind " + kind + " on day " + day, due[of].charAt(on) == '1', () -> x.isCovered(1, of, on));
+                boolean covered = due[of].charAt(on) == '1';
+                Due.answer("5 kind " + kind + " on day " + day, covered, () -> x.isCovered(1, of, on));
             }
         }
         Due.answer("5 after the last day", false, () -> x.isCovered(1, 2, 10));
