@@ -1,12 +1,9 @@
 /** Promises 11 to 21: cases, their stages and clocks, gravity, joining, opening anew, steps and urgency. */
 public final class CasesTest {
     private static final int A = PromiseClocks.ANSWER, V = PromiseClocks.VISIT, M = PromiseClocks.MEND;
-    private static final int[] OUTSIDE_CASES = {-1, 4, 40, Integer.MIN_VALUE, Integer.MAX_VALUE};
-    private static final int[] OUTSIDE_THREE = {-1, 3, Integer.MIN_VALUE, Integer.MAX_VALUE};
 
     public static void main(String[] args) {
         open();
-        openRefuses();
         reach();
         reachCountsMissed();
         rest();
@@ -18,37 +15,9 @@ public final class CasesTest {
         isMissed();
         steps();
         mostUrgent();
-        noSuchCase();
-        noSuchStageOrGravity();
-        wrongStates();
+        mostUrgentOfThree();
+        stateOf();
         Due.end();
-    }
-
-    /** An object whose sites count every hour. */
-    private static PromiseClocks allHours() {
-        PromiseClocks x = new PromiseClocks();
-        countAll(x);
-        return x;
-    }
-
-    private static void countAll(PromiseClocks x) {
-        for (int site = 0; site < 4; site++) {
-            x.setCalendar(site, 127, 0, 23);
-        }
-    }
-
-    /** Case 0 is open, 1 joined to it, 2 closed, 3 open at another site. */
-    private static void fourCases(PromiseClocks x) {
-        countAll(x);
-        x.open(0, 0, 1);
-        x.open(0, 1, 1);
-        x.open(0, 2, 2);
-        x.open(1, 3, 1);
-        x.pass(3);
-        x.reach(0, A);
-        x.join(1, 0);
-        x.reach(2, M);
-        x.pass(3);
     }
 
     private static void fullDesk(PromiseClocks x) {
@@ -58,7 +27,7 @@ public final class CasesTest {
     }
 
     private static void open() {
-        PromiseClocks x = allHours();
+        PromiseClocks x = Desks.allHours();
         x.pass(50);
         for (int i = 0; i < 40; i++) {
             int due = i;
@@ -80,22 +49,8 @@ public final class CasesTest {
         Due.answer("11 closed ones count", "throws.IllegalStateException", () -> x.open(0, 0, 0));
     }
 
-    private static void openRefuses() {
-        for (int out : new int[] {-1, 4, Integer.MIN_VALUE, Integer.MAX_VALUE}) {
-            Due.refusal("11 site", Due.NO_SUCH, CasesTest::fourCases, x -> x.open(out, 0, 0));
-            Due.refusal("11 kind", Due.NO_SUCH, CasesTest::fourCases, x -> x.open(0, out, 0));
-            Due.refusal("11 site first", Due.NO_SUCH, CasesTest::fullDesk, x -> x.open(out, 0, 3));
-            Due.refusal("11 kind first", Due.NO_SUCH, CasesTest::fullDesk, x -> x.open(0, out, 3));
-        }
-        for (int gravity : OUTSIDE_THREE) {
-            Due.refusal("11 gravity", Due.ARGUMENT, CasesTest::fourCases, x -> x.open(0, 0, gravity));
-            Due.refusal("11 gravity first", Due.ARGUMENT, CasesTest::fullDesk, x -> x.open(0, 0, gravity));
-        }
-        Due.refusal("11 full", Due.STATE, CasesTest::fullDesk, x -> x.open(3, 3, 2));
-    }
-
     private static void reach() {
-        PromiseClocks x = allHours();
+        PromiseClocks x = Desks.allHours();
         x.open(0, 0, 0);
         x.pass(3);
         Due.answer("12 VISIT", 0, () -> x.reach(0, V));
@@ -117,7 +72,7 @@ public final class CasesTest {
     }
 
     private static void reachCountsMissed() {
-        PromiseClocks x = allHours();
+        PromiseClocks x = Desks.allHours();
         x.open(0, 0, 0);
         x.pass(4);
         Due.answer("12 a promise just kept", 0, () -> x.reach(0, A));
@@ -142,7 +97,7 @@ public final class CasesTest {
     }
 
     private static void rest() {
-        PromiseClocks x = allHours();
+        PromiseClocks x = Desks.allHours();
         x.open(0, 0, 0);
         x.open(0, 0, 0);
         x.pass(1);
@@ -162,7 +117,7 @@ public final class CasesTest {
     }
 
     private static void setGravity() {
-        PromiseClocks x = allHours();
+        PromiseClocks x = Desks.allHours();
         x.open(0, 0, 0);
         x.pass(4);
         Due.answer("14 not missed", false, () -> x.isMissed(0, A));
@@ -179,7 +134,7 @@ public final class CasesTest {
     }
 
     private static void join() {
-        PromiseClocks x = allHours();
+        PromiseClocks x = Desks.allHours();
         for (int i = 0; i < 4; i++) {
             x.open(2, i, 0);
         }
@@ -200,7 +155,7 @@ public final class CasesTest {
     }
 
     private static void headCloses() {
-        PromiseClocks x = allHours();
+        PromiseClocks x = Desks.allHours();
         for (int i = 0; i < 4; i++) {
             x.open(0, 0, 0);
         }
@@ -226,7 +181,7 @@ public final class CasesTest {
     }
 
     private static void openAnew() {
-        PromiseClocks x = allHours();
+        PromiseClocks x = Desks.allHours();
         x.open(0, 0, 0);
         x.open(0, 0, 0);
         x.pass(3);
@@ -281,7 +236,7 @@ public final class CasesTest {
     }
 
     private static void isMissed() {
-        PromiseClocks x = allHours();
+        PromiseClocks x = Desks.allHours();
         x.open(0, 0, 2);
         int[] promises = {1, 2, 4};
         for (int passed = 0; passed < 6; passed++) {
@@ -299,7 +254,7 @@ public final class CasesTest {
     }
 
     private static void steps() {
-        PromiseClocks x = allHours();
+        PromiseClocks x = Desks.allHours();
         x.setPromise(0, A, 1000);
         x.setPromise(0, V, 1000);
         x.setPromise(0, M, 7);
@@ -309,7 +264,7 @@ public final class CasesTest {
             Due.answer("20 " + passed + " of 7 hours", due[passed], () -> x.step(0));
             x.pass(1);
         }
-        PromiseClocks y = allHours();
+        PromiseClocks y = Desks.allHours();
         y.setPromise(0, A, 200);
         y.setPromise(0, V, 1000);
         y.setPromise(0, M, 1000);
@@ -338,7 +293,7 @@ public final class CasesTest {
     }
 
     private static void mostUrgent() {
-        PromiseClocks x = allHours();
+        PromiseClocks x = Desks.allHours();
         Due.answer("21 no case", PromiseClocks.NONE, () -> x.mostUrgent());
         x.open(0, 0, 0);
         Due.answer("21 step 0 is enough", 0, () -> x.mostUrgent());
@@ -375,74 +330,52 @@ public final class CasesTest {
         Due.answer("21 the last of 40", 39, () -> full.mostUrgent());
     }
 
-    private static void noSuchCase() {
-        for (int out : OUTSIDE_CASES) {
-            Due.refusal("12 case", Due.NO_SUCH, CasesTest::fourCases, x -> x.reach(out, M));
-            Due.refusal("12 case first", Due.NO_SUCH, CasesTest::fourCases, x -> x.reach(out, 3));
-            Due.refusal("13 case", Due.NO_SUCH, CasesTest::fourCases, x -> x.rest(out, true));
-            Due.refusal("14 case", Due.NO_SUCH, CasesTest::fourCases, x -> x.setGravity(out, 0));
-            Due.refusal("14 case first", Due.NO_SUCH, CasesTest::fourCases, x -> x.setGravity(out, 3));
-            Due.refusal("15 case", Due.NO_SUCH, CasesTest::fourCases, x -> x.join(out, 0));
-            Due.refusal("15 head", Due.NO_SUCH, CasesTest::fourCases, x -> x.join(0, out));
-            Due.refusal("15 head first", Due.NO_SUCH, CasesTest::fourCases, x -> x.join(2, out));
-            Due.refusal("15 both first", Due.NO_SUCH, CasesTest::fourCases, x -> x.join(out, out));
-            Due.refusal("16 case", Due.NO_SUCH, CasesTest::fourCases, x -> x.openAnew(out));
-            Due.refusal("17 case", Due.NO_SUCH, CasesTest::fourCases, x -> x.stateOf(out));
-            Due.refusal("18 case", Due.NO_SUCH, CasesTest::fourCases, x -> x.clock(out, A));
-            Due.refusal("18 case first", Due.NO_SUCH, CasesTest::fourCases, x -> x.clock(out, 3));
-            Due.refusal("19 case", Due.NO_SUCH, CasesTest::fourCases, x -> x.isMissed(out, A));
-            Due.refusal("19 case first", Due.NO_SUCH, CasesTest::fourCases, x -> x.isMissed(out, -1));
-            Due.refusal("20 case", Due.NO_SUCH, CasesTest::fourCases, x -> x.step(out));
+    private static void mostUrgentOfThree() {
+        // by a promise of 8 hours these have the steps 0, 1, 2 and 3
+        int[] hours = {3, 4, 6, 9};
+        for (int steps = 0; steps < 64; steps++) {
+            for (int gravities = 0; gravities < 27; gravities++) {
+                int[] step = {steps % 4, steps / 4 % 4, steps / 16};
+                int[] gravity = {gravities % 3, gravities / 3 % 3, gravities / 9};
+                PromiseClocks x = eightHoursPromised();
+                int due = 0;
+                for (int number = 0; number < 3; number++) {
+                    x.open(0, 0, gravity[number]);
+                    boolean more = step[number] > step[due];
+                    if (more || step[number] == step[due] && gravity[number] > gravity[due]) {
+                        due = number;
+                    }
+                }
+                for (int hour = 1; hour <= 9; hour++) {
+                    for (int number = 0; number < 3; number++) {
+                        x.rest(number, hour > hours[step[number]]);
+                    }
+                    x.pass(1);
+                }
+                for (int number = 0; number < 3; number++) {
+                    x.rest(number, false);
+                }
+                Due.answer("21 steps " + steps + ", gravities " + gravities, due, () -> x.mostUrgent());
+            }
         }
     }
 
-    private static void noSuchStageOrGravity() {
-        for (int out : OUTSIDE_THREE) {
-            for (int number = 0; number < 4; number++) {
-                int of = number;
-                Due.refusal("12 stage", Due.ARGUMENT, CasesTest::fourCases, x -> x.reach(of, out));
-                Due.refusal("14 gravity", Due.ARGUMENT, CasesTest::fourCases, x -> x.setGravity(of, out));
-                Due.refusal("18 stage", Due.ARGUMENT, CasesTest::fourCases, x -> x.clock(of, out));
-                Due.refusal("19 stage", Due.ARGUMENT, CasesTest::fourCases, x -> x.isMissed(of, out));
-            }
+    private static PromiseClocks eightHoursPromised() {
+        PromiseClocks x = Desks.allHours();
+        for (int place = 0; place < 9; place++) {
+            x.setPromise(place / 3, place % 3, 8);
         }
-        for (int number = 0; number < 4; number++) {
-            int of = number;
-            Due.refusal("15 the same", Due.ARGUMENT, CasesTest::fourCases, x -> x.join(of, of));
-        }
-        for (int number = 0; number < 3; number++) {
-            int of = number;
-            Due.refusal("15 of different sites", Due.ARGUMENT, CasesTest::fourCases, x -> x.join(of, 3));
-            Due.refusal("15 of different sites", Due.ARGUMENT, CasesTest::fourCases, x -> x.join(3, of));
-        }
+        return x;
     }
 
-    private static void wrongStates() {
-        for (int number = 1; number <= 2; number++) {
-            int of = number;
-            for (int stage = A; stage <= M; stage++) {
-                int to = stage;
-                Due.refusal("12 not open", Due.STATE, CasesTest::fourCases, x -> x.reach(of, to));
-            }
-            Due.refusal("13 not open", Due.STATE, CasesTest::fourCases, x -> x.rest(of, true));
-            Due.refusal("13 not open", Due.STATE, CasesTest::fourCases, x -> x.rest(of, false));
-            Due.refusal("14 not open", Due.STATE, CasesTest::fourCases, x -> x.setGravity(of, 0));
-            Due.refusal("15 not open", Due.STATE, CasesTest::fourCases, x -> x.join(of, 0));
-            Due.refusal("15 head not open", Due.STATE, CasesTest::fourCases, x -> x.join(0, of));
-        }
-        Due.refusal("12 reached", Due.STATE, CasesTest::fourCases, x -> x.reach(0, A));
-        Due.refusal("15 one is joined to it", Due.STATE, x -> {
-            fourCases(x);
-            x.open(0, 0, 0);
-        }, x -> x.join(0, 4));
-        Due.refusal("16 open", Due.STATE, CasesTest::fourCases, x -> x.openAnew(0));
-        Due.refusal("16 joined", Due.STATE, CasesTest::fourCases, x -> x.openAnew(1));
+    private static void stateOf() {
         PromiseClocks x = new PromiseClocks();
-        fourCases(x);
-        int[] states = {PromiseClocks.OPEN, PromiseClocks.JOINED, PromiseClocks.CLOSED, PromiseClocks.OPEN};
-        for (int number = 0; number < 4; number++) {
-            int of = number;
-            Due.answer("17 state", states[of], () -> x.stateOf(of));
+        Desks.mixed(x);
+        int[][] states = {Desks.MIXED_OPEN, Desks.MIXED_JOINED, Desks.MIXED_CLOSED};
+        for (int state = PromiseClocks.OPEN; state <= PromiseClocks.CLOSED; state++) {
+            for (int number : states[state]) {
+                Due.answer("17 state of " + number, state, () -> x.stateOf(number));
+            }
         }
     }
 }

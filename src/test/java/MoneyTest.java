@@ -1,15 +1,11 @@
 /** Promises 22 to 25: hours bought ahead, work, credits and what a site owes. */
 public final class MoneyTest {
-    private static final int[] OUTSIDE = {-1, 4, Integer.MIN_VALUE, Integer.MAX_VALUE};
-    private static final int[] OUTSIDE_HUNDRED = {0, -1, 101, Integer.MIN_VALUE, Integer.MAX_VALUE};
-
     public static void main(String[] args) {
         buy();
         work();
         workToday();
         credits();
         creditsOfToday();
-        refusals();
         Due.end();
     }
 
@@ -129,36 +125,5 @@ public final class MoneyTest {
         x.openAnew(1);
         x.reach(1, PromiseClocks.MEND);
         Due.answer("25 not covered any more", -7500, () -> x.owes(0));
-    }
-
-    /** Case 0 is open, 1 joined to it, 2 closed. */
-    private static void threeCases(PromiseClocks x) {
-        x.buy(0, 10);
-        for (int i = 0; i < 3; i++) {
-            x.open(0, i, 0);
-        }
-        x.join(1, 0);
-        x.reach(2, PromiseClocks.MEND);
-    }
-
-    private static void refusals() {
-        for (int out : OUTSIDE) {
-            Due.refusal("22 site", Due.NO_SUCH, MoneyTest::threeCases, x -> x.buy(out, 5));
-            Due.refusal("22 site first", Due.NO_SUCH, MoneyTest::threeCases, x -> x.buy(out, 0));
-            Due.refusal("23 case", Due.NO_SUCH, MoneyTest::threeCases, x -> x.work(out, 5));
-            Due.refusal("23 case first", Due.NO_SUCH, MoneyTest::threeCases, x -> x.work(out, 0));
-            Due.refusal("24 site", Due.NO_SUCH, MoneyTest::threeCases, x -> x.ahead(out));
-            Due.refusal("25 site", Due.NO_SUCH, MoneyTest::threeCases, x -> x.owes(out));
-        }
-        Due.refusal("23 the next case", Due.NO_SUCH, MoneyTest::threeCases, x -> x.work(3, 5));
-        for (int out : OUTSIDE_HUNDRED) {
-            Due.refusal("22 hours", Due.ARGUMENT, MoneyTest::threeCases, x -> x.buy(0, out));
-            for (int number = 0; number < 3; number++) {
-                int of = number;
-                Due.refusal("23 hours", Due.ARGUMENT, MoneyTest::threeCases, x -> x.work(of, out));
-            }
-        }
-        Due.refusal("23 joined", Due.STATE, MoneyTest::threeCases, x -> x.work(1, 5));
-        Due.refusal("23 closed", Due.STATE, MoneyTest::threeCases, x -> x.work(2, 5));
     }
 }

@@ -1,26 +1,15 @@
-import java.util.function.Consumer;
-
 /** Promises 1 to 10: a new object, calendars, contracts, promises, cover, time and hours. */
 public final class SitesTest {
-    private static final int[] OUTSIDE_SITES = {-1, 4, Integer.MIN_VALUE, Integer.MAX_VALUE};
-
     public static void main(String[] args) {
         newObject();
         setCalendar();
-        setCalendarRefuses();
         addContract();
-        addContractRefuses();
         setPromise();
         isCovered();
         nextGap();
-        coverRefuses();
         passAndTime();
         hours();
-        hoursRefuse();
         Due.end();
-    }
-
-    private static void nothing(PromiseClocks x) {
     }
 
     private static void newObject() {
@@ -72,18 +61,6 @@ public final class SitesTest {
         Due.answer("2 one hour passes", 7, () -> y.clock(0, 2));
     }
 
-    private static void setCalendarRefuses() {
-        for (int site : OUTSIDE_SITES) {
-            Due.refusal("2 site", Due.NO_SUCH, SitesTest::nothing, x -> x.setCalendar(site, 127, 0, 23));
-            Due.refusal("2 site first", Due.NO_SUCH, SitesTest::nothing, x -> x.setCalendar(site, 128, 24, 24));
-        }
-        int[][] wrong = {{-1, 0, 23}, {128, 0, 23}, {127, -1, 23}, {127, 24, 24}, {127, 0, 24}, {127, 9, 8},
-            {127, 0, -1}, {Integer.MAX_VALUE, 0, 0}, {0, Integer.MIN_VALUE, 0}, {0, 0, Integer.MAX_VALUE}};
-        for (int[] w : wrong) {
-            Due.refusal("2 argument", Due.ARGUMENT, SitesTest::nothing, x -> x.setCalendar(0, w[0], w[1], w[2]));
-        }
-    }
-
     private static void addContract() {
         PromiseClocks x = new PromiseClocks();
         for (int i = 1; i <= 8; i++) {
@@ -96,27 +73,6 @@ public final class SitesTest {
         Due.answer("3 another site", 1, () -> x.addContract(3, 15, 1000, 1000));
         Due.answer("3 its last day", true, () -> x.isCovered(3, 3, 1000));
         Due.answer("3 the day before", false, () -> x.isCovered(3, 3, 999));
-    }
-
-    private static void eightContracts(PromiseClocks x) {
-        for (int i = 0; i < 8; i++) {
-            x.addContract(0, 1, 0, 2);
-        }
-    }
-
-    private static void addContractRefuses() {
-        for (int site : OUTSIDE_SITES) {
-            Due.refusal("3 site", Due.NO_SUCH, SitesTest::nothing, x -> x.addContract(site, 1, 0, 5));
-            Due.refusal("3 site first", Due.NO_SUCH, SitesTest::nothing, x -> x.addContract(site, 0, -1, -2));
-        }
-        int[][] wrong = {{0, 0, 5}, {16, 0, 5}, {-1, 0, 5}, {1, -1, 5}, {1, 1001, 1001}, {1, 0, 1001}, {1, 5, 4},
-            {1, 0, -1}, {Integer.MIN_VALUE, 0, 0}, {1, Integer.MIN_VALUE, 0}, {1, 0, Integer.MAX_VALUE}};
-        for (int[] w : wrong) {
-            Due.refusal("3 argument", Due.ARGUMENT, SitesTest::nothing, x -> x.addContract(0, w[0], w[1], w[2]));
-            Due.refusal("3 argument first", Due.ARGUMENT, SitesTest::eightContracts,
-                x -> x.addContract(0, w[0], w[1], w[2]));
-        }
-        Due.refusal("3 full", Due.STATE, SitesTest::eightContracts, x -> x.addContract(0, 15, 0, 1000));
     }
 
     private static void setPromise() {
@@ -138,12 +94,6 @@ public final class SitesTest {
         Due.answer("4 another gravity", false, () -> y.isMissed(0, 0));
         y.setPromise(1, 1, 2);
         Due.answer("4 step", 3, () -> y.step(0));
-
-        int[][] wrong = {{-1, 0, 5}, {3, 0, 5}, {0, -1, 5}, {0, 3, 5}, {0, 0, 0}, {0, 0, 1001}, {0, 0, -1},
-            {Integer.MIN_VALUE, 0, 5}, {0, Integer.MAX_VALUE, 5}, {0, 0, Integer.MAX_VALUE}, {2, 3, 5}, {3, -1, 5}};
-        for (int[] w : wrong) {
-            Due.refusal("4 argument", Due.ARGUMENT, SitesTest::nothing, z -> z.setPromise(w[0], w[1], w[2]));
-        }
     }
 
     private static PromiseClocks withGaps() {
@@ -184,23 +134,6 @@ public final class SitesTest {
         Due.answer("6 the last day of all", 1000, () -> y.nextGap(0, 0, 0));
     }
 
-    private static void coverRefuses() {
-        for (int out : OUTSIDE_SITES) {
-            Due.refusal("5 site", Due.NO_SUCH, SitesTest::nothing, x -> x.isCovered(out, 0, 0));
-            Due.refusal("5 kind", Due.NO_SUCH, SitesTest::nothing, x -> x.isCovered(0, out, 0));
-            Due.refusal("5 site first", Due.NO_SUCH, SitesTest::nothing, x -> x.isCovered(out, 0, -1));
-            Due.refusal("5 kind first", Due.NO_SUCH, SitesTest::nothing, x -> x.isCovered(0, out, 1001));
-            Due.refusal("6 site", Due.NO_SUCH, SitesTest::nothing, x -> x.nextGap(out, 0, 0));
-            Due.refusal("6 kind", Due.NO_SUCH, SitesTest::nothing, x -> x.nextGap(0, out, 0));
-            Due.refusal("6 site first", Due.NO_SUCH, SitesTest::nothing, x -> x.nextGap(out, 0, -1));
-            Due.refusal("6 kind first", Due.NO_SUCH, SitesTest::nothing, x -> x.nextGap(0, out, 1001));
-        }
-        for (int day : new int[] {-1, 1001, Integer.MIN_VALUE, Integer.MAX_VALUE}) {
-            Due.refusal("5 day", Due.ARGUMENT, SitesTest::nothing, x -> x.isCovered(0, 0, day));
-            Due.refusal("6 day", Due.ARGUMENT, SitesTest::nothing, x -> x.nextGap(0, 0, day));
-        }
-    }
-
     private static void almostAtTheEnd(PromiseClocks x) {
         x.open(0, 0, 0);
         for (int i = 0; i < 23; i++) {
@@ -214,12 +147,6 @@ public final class SitesTest {
         Due.answer("7 least", 1, () -> x.pass(1));
         Due.answer("7 most", 1001, () -> x.pass(1000));
         Due.answer("8 time", 1001, () -> x.time());
-        for (int hours : new int[] {0, -1, 1001, Integer.MIN_VALUE, Integer.MAX_VALUE}) {
-            Due.refusal("7 hours", Due.ARGUMENT, SitesTest::nothing, y -> y.pass(hours));
-            Due.refusal("7 hours first", Due.ARGUMENT, SitesTest::almostAtTheEnd, y -> y.pass(hours));
-        }
-        Due.refusal("7 above 24000", Due.STATE, SitesTest::almostAtTheEnd, y -> y.pass(12));
-        Due.refusal("7 far above 24000", Due.STATE, SitesTest::almostAtTheEnd, y -> y.pass(1000));
         PromiseClocks last = new PromiseClocks();
         almostAtTheEnd(last);
         Due.answer("7 up to 24000", 24000, () -> last.pass(11));
@@ -257,21 +184,5 @@ public final class SitesTest {
         y.pass(30);
         Due.answer("9 the time does not matter", 10, () -> y.hours(0, 0, 24));
         Due.answer("10 the time does not matter", 10, () -> y.hoursOneByOne(0, 0, 24));
-    }
-
-    private static void hoursRefuse() {
-        Consumer<PromiseClocks> before = SitesTest::nothing;
-        for (int site : OUTSIDE_SITES) {
-            Due.refusal("9 site", Due.NO_SUCH, before, x -> x.hours(site, 0, 24));
-            Due.refusal("10 site", Due.NO_SUCH, before, x -> x.hoursOneByOne(site, 0, 24));
-            Due.refusal("9 site first", Due.NO_SUCH, before, x -> x.hours(site, 5, 4));
-            Due.refusal("10 site first", Due.NO_SUCH, before, x -> x.hoursOneByOne(site, 5, 4));
-        }
-        int[][] wrong = {{-1, 5}, {5, 4}, {0, 24001}, {24001, 24001}, {0, -1}, {Integer.MIN_VALUE, 5},
-            {0, Integer.MAX_VALUE}, {Integer.MAX_VALUE, Integer.MAX_VALUE}};
-        for (int[] w : wrong) {
-            Due.refusal("9 span", Due.ARGUMENT, before, x -> x.hours(0, w[0], w[1]));
-            Due.refusal("10 span", Due.ARGUMENT, before, x -> x.hoursOneByOne(0, w[0], w[1]));
-        }
     }
 }
